@@ -122,6 +122,8 @@ public final class SheetsTest {
         counts("abc1234567890", 1);
         counts("12 34", 2);
         counts("don't", 2);
+        counts("a z A Z 0 9", 6);
+        counts("/ : @ [ ` {", 0);
         counts("\u00e4b\u00ff", 1);
         counts("aB3dE6gH9jK2mN5pQ8sT1vW4yZ", 1);
         counts("0".repeat(80), 27);
@@ -175,5 +177,13 @@ public final class SheetsTest {
         Check.due("12 signs", x.barred(1), 1);
         Check.write(x, 1, "abcdefghijk");
         Check.due("a part of one", x.barred(1), NONE);
+        Check.write(x, 0, "." + "az".repeat(6) + ".".repeat(55) + "AZ".repeat(6));
+        Check.due("bar of a sheet as long as can be", x.bar(0), 2);
+        Check.write(x, 1, "[z]".repeat(22) + ".." + "Az".repeat(6));
+        Check.due("at the end of a sheet as long as can be", x.barred(1), 68);
+        Check.write(x, 0, "AZ az");
+        Check.due("bar of alike ones", x.bar(0), 2);
+        Check.write(x, 1, "a z zA aZ");
+        Check.due("great letters from the first to the last", x.barred(1), 7);
     }
 }

@@ -10,7 +10,7 @@ import java.util.TreeMap;
 
 /** Runs of random calls, as long as an object may be used, on the class and on PlainOffice: the same answers. */
 public final class ModelTest {
-    private static final int RUNS = 1500, CALLS = 512;
+    private static final int RUNS = 1500, CALLS = 511;
     private static final String SIGNS = "aAbB19 .";
 
     private final Random random;

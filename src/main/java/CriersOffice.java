@@ -912,6 +912,9 @@ public final class CriersOffice {
 
     /** The latest ROUND. */
     private static final class Round {
+        // Each of the walks of a ROUND goes at most the whole way along and up.
+        private static final int FARTHER_THAN_ANY = MOST_SQUARES * 2 * MOST_PLACE + 1;
+
         private final int[] order = new int[MOST_SQUARES];
         private int length = 0;
         // By a set of SQUARES and one that is not in it: the least WALK from that one over the set.
@@ -957,7 +960,7 @@ public final class CriersOffice {
 
         // The lesser SQUARE is looked at first and left only for a better one, as alike orders want.
         private int bestNext(ArrayList<Square> squares, int from, int set) {
-            int best = Integer.MAX_VALUE;
+            int best = FARTHER_THAN_ANY;
             int chosen = 0;
             for (int next = 0; next < measured; next++) {
                 if ((set >> next & 1) == 1) {

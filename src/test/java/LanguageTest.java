@@ -22,6 +22,8 @@ public final class LanguageTest {
         members();
         classesInside();
         words();
+        library();
+        lengths();
         Check.end();
     }
 
@@ -93,8 +95,12 @@ public final class LanguageTest {
         }
     }
 
+    private static String code() throws IOException {
+        return Files.readString(SOURCE).replaceAll("(?s)/\\*.*?\\*/", "").replaceAll("//[^\n]*", "");
+    }
+
     private static void words() throws IOException {
-        String code = Files.readString(SOURCE).replaceAll("(?s)/\\*.*?\\*/", "").replaceAll("//[^\n]*", "");
+        String code = code();
         String[] banned = {"throw", "throws", "try", "catch", "synchronized", "assert", "Exact\\(", "System\\.out",
             "Random", "Thread", "hashCode", "toString", "package"};
         for (String word : banned) {
@@ -106,5 +112,58 @@ public final class LanguageTest {
             boolean listed = Set.of("java.util.ArrayList", "java.util.List", "java.util.Arrays").contains(m.group(1));
             Check.holds(m.group() + " is listed", listed);
         }
+    }
+
+    /** Rule 4: of Integer, Long and Math functions alone, no constants; every other call is the class's own or listed. */
+    private static void library() throws IOException {
+        String code = code();
+        for (Matcher m = Pattern.compile("\\b(Integer|Long|Math)\\.(\\w+)(\\()?").matcher(code); m.find();) {
+            Check.holds(m.group() + " is a function", m.group(3) != null);
+        }
+        Set<String> due = new HashSet<>(Set.of("length", "charAt", "isEmpty", "equals", "indexOf", "substring",
+            "toCharArray", "append", "setCharAt", "setLength", "deleteCharAt", "reverse", "add", "get", "set", "remove",
+            "size", "clear", "of", "compare", "max", "min", "abs", "bitCount", "floorDiv", "floorMod", "arraycopy",
+            "copyOf", "copyOfRange", "fill", "clone"));
+        addMethods(CriersOffice.class, due);
+        for (Class<?> c : CriersOffice.class.getDeclaredClasses()) {
+            addMethods(c, due);
+        }
+        for (Matcher m = Pattern.compile("\\.\\s*(\\w+)\\(").matcher(code); m.find();) {
+            Check.holds(m.group(1) + "() is the class's own or listed", due.contains(m.group(1)));
+        }
+    }
+
+    private static void addMethods(Class<?> c, Set<String> names) {
+        for (Method m : c.getDeclaredMethods()) {
+            names.add(m.getName());
+        }
+    }
+
+    /** Rule 11: some sixty lines a method, some twenty fields a class beside its constants, seven parameters. */
+    private static void lengths() throws IOException {
+        Pattern method = Pattern.compile("(?m)^( {4}| {8})[^ \n=;][^\n=;]*\\) \\{\n(?s:.*?)^\\1\\}");
+        int seen = 0;
+        for (Matcher m = method.matcher(code()); m.find(); seen++) {
+            String head = m.group().substring(0, m.group().indexOf('\n')).trim();
+            Check.holds(head + " is short", m.group().lines().count() <= 60);
+        }
+        Check.holds("methods were measured", seen > 60);
+        hasFewFields(CriersOffice.class);
+        for (Class<?> c : CriersOffice.class.getDeclaredClasses()) {
+            hasFewFields(c);
+            for (Constructor<?> made : c.getDeclaredConstructors()) {
+                Check.holds(made + " takes seven at most", made.getParameterCount() <= 7);
+            }
+        }
+    }
+
+    private static void hasFewFields(Class<?> c) {
+        int fields = 0;
+        for (Field f : c.getDeclaredFields()) {
+            if (!Modifier.isStatic(f.getModifiers())) {
+                fields++;
+            }
+        }
+        Check.holds(c + " has few fields", fields <= 20);
     }
 }
